@@ -87,8 +87,7 @@ public final class BottlingBook {
 
     public int spill(int lot, int quarters) throws IndexOutOfBoundsException, IllegalArgumentException {
         requireLot(lot);
-        requireNumber(quarters, 1, MOST_QUARTERS);
-        requireNumber(quarters, 1, now.lots.leftIn(lot));
+        requireNumber(quarters, 1, Math.min(MOST_QUARTERS, now.lots.leftIn(lot)));
         history.remember(now);
         now.lots.take(lot, quarters);
         now.lots.spilled += quarters;
@@ -210,7 +209,8 @@ public final class BottlingBook {
     public int serve(int bottling) throws IndexOutOfBoundsException {
         requirePlace(bottling, now.bottlings.count);
         history.remember(now);
-        int given = now.customers.handOut(bottling, now.bottlings.stockOf(bottling), line);
+        int stock = now.bottlings.stockOf(bottling);
+        int given = now.customers.handOut(bottling, stock, line);
         now.bottlings.addToStock(bottling, -given);
         return given;
     }
@@ -218,8 +218,7 @@ public final class BottlingBook {
     public int giveBack(int customer, int bottling, int bottles)
             throws IndexOutOfBoundsException, IllegalArgumentException {
         requireCustomerAndBottling(customer, bottling);
-        requireNumber(bottles, 1, MOST_BOTTLES);
-        requireNumber(bottles, 1, now.customers.held.at(customer, bottling));
+        requireNumber(bottles, 1, Math.min(MOST_BOTTLES, now.customers.held.at(customer, bottling)));
         history.remember(now);
         now.bottlings.addToStock(bottling, bottles);
         return now.customers.handIn(customer, bottling, bottles);
@@ -560,7 +559,7 @@ public final class BottlingBook {
 
         private boolean hasWrongParts(Input text) {
             for (int part = 0; part < text.parts; part++) {
-                if (!isWithin(text.lotOf(part), 0, count - 1)) {
+                if (text.lotOf(part) >= count) {
                     return true;
                 }
                 for (int other = 0; other < part; other++) {
@@ -1030,7 +1029,6 @@ public final class BottlingBook {
         /** Returns whether the text is a blend; if it is none, the position is that of the error. */
         private boolean readBlend() {
             position = 0;
-            parts = 0;
             sound = true;
             boolean ends = false;
             for (int part = 0; part < MOST_PARTS && sound && !ends; part++) {
@@ -1051,12 +1049,16 @@ public final class BottlingBook {
             parts = part + 1;
         }
 
+        private int nextSign() {
+            return position >= 0 && position < length && position < signs.length ? signs[position] : NONE;
+        }
+
         private boolean hasDigit() {
-            return isWithin(position, 0, length - 1) && position < signs.length && isWithin(signs[position], '0', '9');
+            return isWithin(nextSign(), '0', '9');
         }
 
         private void readSign(char sign) {
-            if (sound && isWithin(position, 0, length - 1) && position < signs.length && signs[position] == sign) {
+            if (sound && nextSign() == sign) {
                 position++;
             } else {
                 sound = false;
@@ -1068,7 +1070,7 @@ public final class BottlingBook {
             int number = 0;
             boolean goesOn = sound;
             for (int digits = 0; digits < MOST_DIGITS && goesOn && hasDigit(); digits++) {
-                number = number * 10 + (signs[position] - '0');
+                number = number * 10 + (nextSign() - '0');
                 position++;
                 goesOn = number != 0;
             }

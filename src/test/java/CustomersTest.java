@@ -84,6 +84,52 @@ public final class CustomersTest {
     }
 
     private static void serveByPortions() {
+        String[] portions = {"0 12", "1 6", "2 3"};
+        for (String portion : portions) {
+            String[] two = portion.split(" ");
+            // The next bottle goes to the other customer, who comes later on the list.
+            Script.play("17 the portion of the class " + two[0], """
+                harvest 10 0 0 9999 = 0
+                bottle 0 PORTION -1 -1 -1 -1 = 0
+                bottle 0 1 -1 -1 -1 -1 = 1
+                bottle 0 99 -1 -1 -1 -1 = 2
+                addCustomer KIND = 0
+                addCustomer 2 = 1
+                wish 0 0 99 = 0
+                wish 1 0 99 = 0
+                serve 0 = PORTION
+                holds 0 0 0 = PORTION
+                holds 1 0 0 = 0
+                wish 0 2 PORTION = 0
+                wish 1 2 1 = 0
+                serve 2 = SUM
+                holds 0 2 2 = -1
+                holds 1 2 0 = 1
+                """.replace("PORTION", two[1]).replace("KIND", two[0])
+                .replace("SUM", String.valueOf(Integer.parseInt(two[1]) + 1)));
+        }
+        Script.play("17 no more than the portion", """
+            harvest 10 0 0 9999 = 0
+            bottle 0 13 -1 -1 -1 -1 = 0
+            bottle 0 7 -1 -1 -1 -1 = 1
+            bottle 0 4 -1 -1 -1 -1 = 2
+            addCustomer 0 = 0
+            addCustomer 1 = 1
+            addCustomer 2 = 2
+            addCustomer 2 = 3
+            wish 0 0 99 = 0
+            wish 1 0 99 = 0
+            serve 0 = 13
+            holds 1 0 0 = 1
+            wish 1 1 99 = 0
+            wish 2 1 99 = 0
+            serve 1 = 7
+            holds 2 1 0 = 1
+            wish 2 2 99 = 0
+            wish 3 2 99 = 0
+            serve 2 = 4
+            holds 3 2 0 = 1
+            """);
         Script.play("17 the portions", """
             harvest 10 0 0 9999 = 0
             bottle 0 21 -1 -1 -1 -1 = 0

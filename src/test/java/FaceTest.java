@@ -18,7 +18,8 @@ public final class FaceTest {
         "int greatest(int, int) IndexOutOfBoundsException, NoSuchElementException",
         "double meanVintage(int) IndexOutOfBoundsException",
         "int setLaw(int, int) IndexOutOfBoundsException, IllegalArgumentException",
-        "int bottle(int, int, int, int, int, int) IndexOutOfBoundsException, IllegalArgumentException, IllegalStateException",
+        "int bottle(int, int, int, int, int, int) "
+            + "IndexOutOfBoundsException, IllegalArgumentException, IllegalStateException",
         "int forbids(int, int, int, int, int) IndexOutOfBoundsException, IllegalArgumentException",
         "int bottling(int, int) IndexOutOfBoundsException, IllegalArgumentException",
         "int reason() NoSuchElementException",

@@ -67,7 +67,8 @@ public final class InputTest {
             "0:1+1", "5", "0:1+1:", "6", "0:1++", "4", "0:1+1+", "5", "0:1+1:1+", "8",
             "0:01+1:1", "3", "0:00+1:1", "3", "0:1+1:00", "7",
             "12345:1+1:1", "4", "1234", "4", "1234:12345+0:1", "9", "0:12345", "6",
-            "0:1+1:1+2:1+3:1+", "15", "0:1+1:1+2:1+3:1+4:1", "15", "0:1+1:1+2:1+3:1x", "15", "0:1+1:1+2:1+3:", "14",
+            "0:1+1:1+2:1+3:1+", "15", "0:1+1:1+2:1+3:1+4:1", "15", "0:1+1:1+2:1+3:1x", "15",
+            "0:1+1:1+2:1+3:", "14",
             "9999:9999+9999:9999+9999:9999+9999:9999+", "39", "9999:9999+9999:9999+9999:9999+9999:99999", "39",
             "0:1+1:1x", "7", "0:1+1:1:", "7", "-1:1+1:1", "0", "0:-1+1:1", "2", "0:1-1:1", "3", "0/1", "1", "0:1+1:1;", "7",
             "/:1", "0", ";:1", "0", "0:/", "2", "1:1+\u0660:1", "4",
@@ -76,6 +77,26 @@ public final class InputTest {
             Script.play("3 and 27 error positions", TWO + "type " + texts[i] + "\nblend ! IAE\nerrorPosition = "
                 + texts[i + 1] + "\naccount 11 = 0\naccount 10 = 4\n");
         }
+        Script.play("27 what was read before is gone", TWO + """
+            type 0:1+1:1+2:3333
+            blend = 4
+            type 0
+            blend ! IAE
+            errorPosition = 1
+            type 0:
+            blend ! IAE
+            errorPosition = 2
+            type 0:1
+            blend ! IAE
+            errorPosition = 3
+            type 0:1+1:1+2:3
+            blend = 5
+            part 5 2 1 = 3
+            type 0:1+1:1
+            blend = 6
+            lot 6 2 = 2
+            lot 6 0 = 2
+            """);
         Script.play("27 blanks and line ends are errors, too", TWO + """
             feed 32 = 1
             blend ! IAE
@@ -120,7 +141,8 @@ public final class InputTest {
             """);
         StringBuilder lots = new StringBuilder(TWO);
         for (int lot = 4; lot < 12; lot++) {
-            lots.append("type ").append(lot - 4).append(":3+").append(lot - 3).append(":3\nblend = ").append(lot).append("\n");
+            lots.append("type ").append(lot - 4).append(":3+").append(lot - 3).append(":3\n");
+            lots.append("blend = ").append(lot).append("\n");
         }
         Script.play("3 lots with two digits", lots + """
             type 10:1+0:1

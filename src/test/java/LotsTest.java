@@ -454,12 +454,18 @@ public final class LotsTest {
             share 7 0 0 = 333
             share 7 0 1 = 667
             # a share can be 0
-            type 3:1+2:9990
+            type 3:1+2:9000
             blend = 8
             share 8 0 2 = 1000
             share 8 0 3 = 0
             lot 8 5 = 1
             lot 3 6 = 3
+            # a share of 1 counts
+            type 3:1+2:990
+            blend = 9
+            share 9 0 3 = 1
+            lot 9 5 = 2
+            greatest 9 1 = 3
             """);
     }
 

@@ -48,6 +48,8 @@ final class Model {
         }
     }
 
+    private static final String NUMBER = "(0|[1-9][0-9]{0,3})";
+
     private World world = new World();
     private World saved;
     private final List<World> before = new ArrayList<>();
@@ -99,11 +101,11 @@ final class Model {
     }
 
     private static boolean canBegin(String text) {
-        return text.matches("((0|[1-9][0-9]{0,3}):(0|[1-9][0-9]{0,3})\\+){0,3}((0|[1-9][0-9]{0,3})(:(0|[1-9][0-9]{0,3})?)?)?");
+        return text.matches("(N:N\\+){0,3}(N(:N?)?)?".replace("N", NUMBER));
     }
 
     private static boolean isBlend(String text) {
-        return text.matches("(0|[1-9][0-9]{0,3}):(0|[1-9][0-9]{0,3})(\\+(0|[1-9][0-9]{0,3}):(0|[1-9][0-9]{0,3})){1,3}");
+        return text.matches("N:N(\\+N:N){1,3}".replace("N", NUMBER));
     }
 
     int blend() {

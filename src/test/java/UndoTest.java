@@ -18,6 +18,7 @@ public final class UndoTest {
         save();
         restore();
         restoreGoesBackInAll();
+        restoreOverOtherNumbers();
         Script.end();
     }
 
@@ -274,6 +275,102 @@ public final class UndoTest {
             lot 1 1 = 9999
             setLaw 2 750 = 800
             bottling 1 0 ! IOOBE
+            """);
+    }
+
+    private static void restoreOverOtherNumbers() {
+        Script.play("30 what was made in the same places is gone", """
+            harvest 10 0 0 100 = 0
+            harvest 20 1 1 100 = 1
+            type 0:30+1:10
+            blend = 2
+            addCustomer 2 = 0
+            addCustomer 0 = 1
+            bottle 2 4 -1 0 1 -1 = 0
+            wish 0 0 2 = 0
+            wish 1 0 1 = 0
+            save = 3
+            undo = 7
+            undo = 6
+            undo = 5
+            undo = 4
+            undo = 3
+            undo = 2
+            undo = 1
+            undo = 0
+            harvest 30 2 2 50 = 0
+            harvest 40 3 3 50 = 1
+            harvest 50 4 0 50 = 2
+            type 2:6+1:12+0:6
+            blend = 3
+            addCustomer 1 = 0
+            addCustomer 1 = 1
+            bottle 0 5 30 -1 -1 2 = 0
+            wish 1 0 9 = 0
+            serve 0 = 5
+            restore = 3
+            account 7 = 2
+            lot 2 2 = 2
+            lot 2 4 = -1
+            lot 2 1 = 28
+            lot 2 5 = 2
+            lot 0 6 = 1
+            part 2 0 0 = 0
+            part 2 0 1 = 30
+            part 2 1 0 = 1
+            part 2 1 1 = 10
+            share 2 0 0 = 750
+            share 2 0 1 = 250
+            share 1 1 20 = 1000
+            share 1 2 1 = 1000
+            share 1 3 1 = 1000
+            listed 0 0 = 1
+            listed 0 1 = 0
+            holds 0 0 0 = 0
+            holds 0 0 1 = 2
+            bottling 0 0 = 2
+            bottling 0 1 = 4
+            bottling 0 2 = 4
+            bottling 0 3 = -1
+            bottling 0 5 = 1
+            bottling 0 6 = -1
+            recalled 1 = 1
+            serve 0 = 3
+            """);
+        Script.play("30 blends go back", """
+            harvest 10 0 0 100 = 0
+            harvest 20 1 1 100 = 1
+            type 0:30+1:10
+            blend = 2
+            save = 3
+            undo = 2
+            type 1:6+0:4
+            blend = 2
+            share 2 0 0 = 400
+            restore = 3
+            part 2 0 0 = 0
+            part 2 0 1 = 30
+            part 2 1 0 = 1
+            part 2 1 1 = 10
+            share 2 0 0 = 750
+            share 2 0 1 = 250
+            lot 2 0 = 40
+            """);
+        Script.play("30 harvests go back", """
+            harvest 10 0 0 100 = 0
+            harvest 20 1 1 100 = 1
+            save = 2
+            undo = 1
+            undo = 0
+            harvest 30 2 2 50 = 0
+            harvest 40 3 3 50 = 1
+            restore = 2
+            share 0 1 10 = 1000
+            share 0 1 30 = 0
+            share 1 2 1 = 1000
+            share 1 3 1 = 1000
+            meanVintage 1 = 20.0
+            lot 0 0 = 100
             """);
     }
 }
