@@ -150,12 +150,12 @@ final class Model {
             world.lots.get(part[0]).left -= part[1];
         }
         lot.left = lot.made;
-        share(lot);
+        mixShares(lot);
         world.lots.add(lot);
         return world.lots.size() - 1;
     }
 
-    private void share(Lot lot) {
+    private void mixShares(Lot lot) {
         int missing = 1000;
         List<long[]> remainders = new ArrayList<>();
         for (int harvest = 0; harvest < 12; harvest++) {
