@@ -923,6 +923,12 @@ final class LotEdges {
             mix 0:1+1:1998 = 4
             share 4 0 0 = 1
             share 4 0 1 = 999
+            == 7 the least total: two quarters of lots with odd shares
+            mix 0:1+1:1+2:1 = 4
+            mix 4:1+2:1 = 5
+            share 5 0 0 = 167
+            share 5 0 1 = 167
+            share 5 0 2 = 666
             == 7 a harvest with a few quarters has the share 0
             mix 0:4+1:9999 = 4
             share 4 0 0 = 0
@@ -968,6 +974,28 @@ final class LotEdges {
             share 15 0 8 = 36
             share 15 0 11 = 36
             share 15 2 0 = 1000
+            """);
+        Script.play("7 ten are missing among twelve", """
+            times 12 harvest 0 0 0 1000
+            mix 0:9+1:4+2:7+3:4 = 12
+            mix 4:11+5:5+6:7+7:1 = 13
+            mix 8:5+9:7+10:7+11:7 = 14
+            share 13 0 7 = 42
+            share 14 0 8 = 193
+            mix 12:5+13:8+14:6 = 15
+            # the harvest 5 has the least remainder; 0, 3 and 7 have the next one, and 7 gets none
+            share 15 0 0 = 99
+            share 15 0 1 = 44
+            share 15 0 2 = 77
+            share 15 0 3 = 44
+            share 15 0 4 = 193
+            share 15 0 5 = 87
+            share 15 0 6 = 123
+            share 15 0 7 = 17
+            share 15 0 8 = 61
+            share 15 0 9 = 85
+            share 15 0 10 = 85
+            share 15 0 11 = 85
             """);
     }
 

@@ -1,6 +1,8 @@
 import java.lang.reflect.InvocationTargetException;
 import java.lang.reflect.Method;
 import java.lang.reflect.Modifier;
+import java.util.ArrayList;
+import java.util.List;
 import java.util.Set;
 import java.util.TreeSet;
 
@@ -49,6 +51,23 @@ final class Script {
                 play(two[0], first + two[1]);
             }
         }
+    }
+
+    /** What the calls of such lines, on one new book, answer; here nothing is due. */
+    static List<String> answers(List<String> calls) {
+        Script script = new Script("answers");
+        List<String> answers = new ArrayList<>();
+        for (String call : calls) {
+            if (call.startsWith("type ")) {
+                script.type(call.substring("type ".length()));
+            } else {
+                answers.add(call + " = " + script.playCall(call));
+            }
+        }
+        if (script.calls > MOST_CALLS) {
+            report("answers", "the calls", script.calls + " calls", "at most " + MOST_CALLS);
+        }
+        return answers;
     }
 
     static Set<Integer> promises() {

@@ -507,6 +507,27 @@ final class UndoEdges {
             wish 0 0 50 = 20
             restore = 3
             holds 0 0 1 = 20
+            == 30 the class of a customer, though one of another class took the number
+            undo = 6
+            undo = 5
+            undo = 4
+            undo = 3
+            addCustomer 2 = 0
+            addCustomer 1 = 1
+            restore = 3
+            addCustomer 1 = 1
+            wish 0 0 99 = 20
+            wish 1 0 99 = 0
+            listed 0 0 = 0
+            listed 0 1 = 1
+            == 30 a blend, though another one took the number
+            undo = 6
+            mix 1:30+0:50 = 2
+            restore = 3
+            part 2 0 0 = 0
+            part 2 0 1 = 10
+            share 2 0 0 = 500
+            lot 2 0 = 20
             == 30 the input does not go back
             type 0:1
             restore = 3
